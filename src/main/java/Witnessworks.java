@@ -2879,7 +2879,7 @@ public final class Witnessworks {
             int place = first + 2;
             int ahead = 1;
             int rest = prime - 1;
-            while (rest != 1 && place < row.count) {
+            for (int turn = 0; turn < MOST_DEEP && rest != 1 && place < row.count; turn++) {
                 int divisor = row.at(place);
                 if (divisor <= ahead || rest % divisor != 0) {
                     return NONE;
