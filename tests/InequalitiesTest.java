@@ -16,7 +16,7 @@ public final class InequalitiesTest extends Trial {
         InequalitiesTest trial = new InequalitiesTest(due);
         trial.run(400, 4);
         trial.mostItems = 12;
-        trial.runWitnesses(250, 44);
+        trial.run(250, 44);
         edges(due);
         due.end();
     }
@@ -41,27 +41,6 @@ public final class InequalitiesTest extends Trial {
         due.is("number", 1, w.number(l));
         int m = w.open('m', 2, 0);
         due.fails("another kind", UnsupportedOperationException.class, () -> w.isTight(m, 5));
-    }
-
-    /** With many items the corners of weights are too many; then only witnesses are compared. */
-    private void runWitnesses(int times, long seed) {
-        random = new java.util.Random(seed);
-        for (int time = 0; time < times; time++) {
-            items.clear();
-            make();
-            Fraction[] corner = leastCorner(unknownRows(), unknownSides(), size);
-            if (corner != null) {
-                tryOut();
-            } else {
-                Witnessworks w = new Witnessworks();
-                int entry = w.open('l', size, bound);
-                for (int[] item : items) {
-                    w.put(entry, item[0], item[1], item[2], item[3], item[4]);
-                }
-                due.is("answer of " + this, 'n', w.answer(entry));
-                due.is("accepted " + this, 0, judge(keptBy(w, entry), false));
-            }
-        }
     }
 
     @Override
@@ -113,25 +92,55 @@ public final class InequalitiesTest extends Trial {
         return sides;
     }
 
-    private int[][] weightRows() {
+    /** Corners of weights have at most one more of them above 0 than there are unknowns. */
+    private Fraction[] leastWeights() {
         int many = items.size() + 1;
-        int[][] rows = new int[2 + size + many][many];
+        int[][] columns = new int[many + size][size + 1];
         for (int i = 0; i < many; i++) {
-            rows[0][i] = limit(i);
-            rows[1][i] = -limit(i);
             for (int j = 0; j < size; j++) {
-                rows[2 + j][i] = -times(i, j);
+                columns[i][j] = times(i, j);
+                columns[many + j][j] = -1;
             }
-            rows[2 + size + i][i] = -1;
+            columns[i][size] = limit(i);
         }
-        return rows;
+        return leastWeights(columns, many, new ArrayList<>(), 0, null);
     }
 
-    private int[] weightSides() {
-        int[] sides = new int[2 + size + items.size() + 1];
-        sides[0] = -1;
-        sides[1] = 1;
-        return sides;
+    private Fraction[] leastWeights(int[][] columns, int many, List<Integer> taken, int from, Fraction[] least) {
+        int all = size + 1;
+        if (taken.size() < all) {
+            for (int i = from; i < columns.length; i++) {
+                taken.add(i);
+                least = leastWeights(columns, many, taken, i + 1, least);
+                taken.remove(taken.size() - 1);
+            }
+            return least;
+        }
+        int[][] rows = new int[all][all];
+        int[] sides = new int[all];
+        sides[size] = -1;
+        List<Integer> each = new ArrayList<>();
+        for (int i = 0; i < all; i++) {
+            each.add(i);
+            for (int j = 0; j < all; j++) {
+                rows[j][i] = columns[taken.get(i)][j];
+            }
+        }
+        Fraction[] found = corner(rows, sides, all, each);
+        if (found == null) {
+            return least;
+        }
+        Fraction[] weights = new Fraction[many];
+        Arrays.fill(weights, Fraction.of(0));
+        for (int i = 0; i < all; i++) {
+            if (found[i].over.signum() < 0) {
+                return least;
+            }
+            if (taken.get(i) < many) {
+                weights[taken.get(i)] = found[i];
+            }
+        }
+        return least == null || Arrays.compare(weights, least) < 0 ? weights : least;
     }
 
     private Fraction best;
@@ -220,7 +229,7 @@ public final class InequalitiesTest extends Trial {
         } else {
             reply = 'n';
             number = 0;
-            corner = leastCorner(weightRows(), weightSides(), items.size() + 1);
+            corner = leastWeights();
         }
         kept = inOne(corner);
     }
