@@ -293,6 +293,16 @@ public final class BookTest {
         fails("no entry first", w, NO_ENTRY, () -> w.lean(-1, m, 21));
         due.is("something else", 0, w.lean(m, f, 0));
         due.is("leans", f, w.leansOn(m));
+        Witnessworks low = new Witnessworks();
+        low.open('n', 1, 35);
+        low.open('m', 4, 0);
+        due.is("on the entry 0", 5, low.lean(1, 0, 0));
+        due.is("on the entry 0", 0, low.leansOn(1));
+        low.setBound(0, 4);
+        due.is("goes along", 2, low.boundOf(1));
+        low.setBound(0, 9);
+        due.is("goes along at once", 'n', low.answer(1));
+        due.is("and stands", 3, low.stand(1));
         w.stand(n);
         due.is("no more round", 5, w.lean(f, n, 3));
         w.put(m, 0, 1, 0, 0, 0);

@@ -18,6 +18,7 @@ public final class CarryTest {
         test.exceptions();
         test.bringing();
         test.bringsNotBack();
+        test.bringsAtOnce();
         due.end();
     }
 
@@ -113,6 +114,12 @@ public final class CarryTest {
         fails("more than three edges", w, NOT_SO, () -> w.carry(star, 's'));
         w.drop(star, 3);
         fails("a node without edges", w, NOT_SO, () -> w.carry(star, 's'));
+        int three = w.open('m', 4, 0);
+        for (int v = 1; v < 4; v++) {
+            w.put(three, 0, v, 0, 0, 0);
+        }
+        due.is("three edges", "1 2 3 0 0; 1 0 0 0 0; 2 0 0 0 0; 3 0 0 0 0; -1 -2 0 0 0; -1 -3 0 0 0; -2 -3 0 0 0; ",
+                items(w, w.carry(three, 's')));
         int ring = w.open('m', 6, 0);
         for (int v = 0; v < 6; v++) {
             w.put(ring, v, (v + 1) % 6, 0, 0, 0);
@@ -165,6 +172,11 @@ public final class CarryTest {
         due.is("nodes", 1, w.bring(bar));
         due.is("typed", "1 ", Due.typed(w));
         due.is("accepted", 0, w.check(path, false));
+        int fork = w.open('m', 3, 0);
+        w.put(fork, 0, 1, 0, 0, 0);
+        w.put(fork, 2, 0, 0, 0, 0);
+        due.is("nodes", 1, w.bring(w.carry(fork, 'f')));
+        due.is("typed", "0 ", Due.typed(w));
         int flow = w.open('f', 2, 2);
         w.put(flow, 0, 1, 1, 0, 0);
         w.put(flow, 0, 1, 2, 0, 0);
@@ -172,6 +184,23 @@ public final class CarryTest {
         due.is("unknowns", 2, w.bring(l));
         due.is("typed", "0 2 ", Due.typed(w));
         due.is("accepted", 0, w.check(flow, true));
+    }
+
+    /** No other call comes between, by which the one that it came from would be looked at. */
+    private void bringsAtOnce() {
+        Witnessworks w = new Witnessworks();
+        int m = w.open('m', 2, 0);
+        w.put(m, 0, 1, 0, 0, 0);
+        int f = w.carry(m, 'f');
+        w.setBound(m, 2);
+        due.fails("another bound", NOT_SO, () -> w.bring(f));
+        w.undo();
+        due.is("as it was", 2, w.bring(f));
+        int n = w.open('n', 1, 4);
+        w.lean(m, n, -2);
+        due.is("leans on what is the same", 2, w.bring(f));
+        w.setBound(n, 5);
+        due.fails("leans on what is another one", NOT_SO, () -> w.bring(f));
     }
 
     private void bringsNotBack() {
