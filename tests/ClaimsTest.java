@@ -84,6 +84,11 @@ public final class ClaimsTest {
         fails("too long", w, UnsupportedOperationException.class, () -> w.borrow(words));
         w.setBound(words, 5);
         due.is("63", 63, w.borrow(words));
+        int six = w.open('w', 1, 6);
+        w.put(six, 64, 1, 0, 0, 0);
+        w.put(six, 2, 3, 0, 0, 0);
+        due.is("just 64", 64, w.borrow(six));
+        due.is("accepted", 0, w.check(six, false));
     }
 
     private void checking() {
