@@ -3436,13 +3436,16 @@ public final class Witnessworks {
         private void replaceAll(Entry entry, int word, int old, int put) {
             int all = lettersOf(word);
             int many = lettersOf(old);
+            int manyPut = lettersOf(put);
+            if (all - many + manyPut > entry.boundNow) {
+                return;
+            }
             for (int behind = all - many; behind >= 0; behind--) {
                 int middle = word >> behind & (1 << many) - 1;
-                if (middle + (1 << many) == old && all - many + lettersOf(put) <= entry.boundNow) {
+                if (middle + (1 << many) == old) {
                     int ahead = word >> behind + many;
-                    int letters = put - (1 << lettersOf(put));
-                    int made = (ahead << lettersOf(put) | letters) << behind | word & (1 << behind) - 1;
-                    addNext(made);
+                    int letters = put - (1 << manyPut);
+                    addNext((ahead << manyPut | letters) << behind | word & (1 << behind) - 1);
                 }
             }
         }
