@@ -182,6 +182,9 @@ public final class DrawingEdgesTest {
         five.refutation("five with four, by 3", 3, 3, 0, 1, 2, 3, 4, 5, 6, 7, 8, 9);
         five.refutation("two with three only", 3, 5, 0, 1, 2, 3, 4, 5, 6, 7, 8);
         five.refutation("no item, though below the bound", 1, 5, 10);
+        Desk wheel = new Desk(due, 'p', 6, 10).item(0, 1).item(0, 2).item(0, 3).item(0, 4).item(0, 5);
+        wheel.item(1, 2).item(2, 3).item(3, 4).item(4, 5).item(5, 1);
+        wheel.refutation("six, but one of them with five", 3, 3, 0, 1, 2, 3, 4, 5, 6, 7, 8, 9);
     }
 
     private void waysOfThree() {

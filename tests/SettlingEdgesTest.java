@@ -40,6 +40,7 @@ public final class SettlingEdgesTest {
         test.lettersOfErrata();
         test.placesOfErrata();
         test.everySettlingCounts();
+        test.asManyCallsAsThereCanBe();
         due.end();
     }
 
@@ -527,5 +528,28 @@ public final class SettlingEdgesTest {
         w.setBound(0, 5);
         due.is("one", 1, w.settle());
         due.is("settling", 501, w.erratum(0, 's'));
+    }
+
+    /** 512 calls are promised; as many errata as they can tell of answers must all be there by the last one. */
+    private void asManyCallsAsThereCanBe() {
+        Witnessworks w = new Witnessworks();
+        for (int i = 0; i < 12; i++) {
+            w.open('n', 1, 4);
+        }
+        for (int i = 0; i < 11; i++) {
+            w.lean(i, 11, 0);
+        }
+        w.settle();
+        int calls = 24;
+        int all = 0;
+        while (calls + 2 < 511) {
+            w.setBound(11, all % 24 == 0 ? 3 : 4);
+            all += w.settle();
+            calls += 2;
+        }
+        due.is("twelve each time", 12 * 243, all);
+        due.is("the call 511", 12 * 243, w.errata());
+        due.is("the call 512", 'y', w.erratumSign(12 * 243 - 1));
+        due.is("calls", 510, calls);
     }
 }

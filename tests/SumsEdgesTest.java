@@ -103,7 +103,8 @@ public final class SumsEdgesTest {
         due.is("even ones", 360, w.number(0));
         due.is("k and all of them", 361, w.length(0));
         due.is("five points", 5, w.sign(0, 0));
-        due.is("the greatest row, as that with 1 at its end is odd", 5 * 1296 + 4 * 216 + 3 * 36 + 2 * 6, w.sign(0, 360));
+        due.is("the greatest row, as that with 1 at its end is odd", 5 * 1296 + 4 * 216 + 3 * 36 + 2 * 6,
+                w.sign(0, 360));
         due.fails("behind it", java.util.NoSuchElementException.class, () -> w.sign(0, 361));
         due.fails("too long to borrow", UnsupportedOperationException.class, () -> w.borrow(0));
         due.is("mean", 361.0, w.meanLength());

@@ -168,6 +168,7 @@ public final class WordEdgesTest {
     private void moreLettersThanTheBound() {
         Desk both = new Desk(due, 'w', 1, 1).item(5, 5);
         both.tells("none leads, though it is the same", 'n', 0, "");
+        both.witness("a word that is too long is none of a row", 1, 5);
         both.bound(2).tells("as many as the bound", 'y', 1, "5");
         Desk second = new Desk(due, 'w', 1, 1).item(2, 4).item(2, 3);
         second.tells("the second one", 'n', 2, "2 3");
@@ -303,6 +304,10 @@ public final class WordEdgesTest {
         e.fails("the same, but too long", NoSuchElementException.class, () -> e.w.distance(0, 255, 255));
         e.fails("too long", NoSuchElementException.class, () -> e.w.distance(0, 128, 64));
         due.is("as many letters as the bound", 6, e.w.distance(0, 64, 127));
+        e.item(1, 2);
+        due.is("from as many letters as the bound", 1, e.w.distance(0, 64, 32));
+        e.fails("from one letter more", NoSuchElementException.class, () -> e.w.distance(0, 128, 64));
+        e.fails("to one letter more", NoSuchElementException.class, () -> e.w.distance(0, 64, 128));
         e.fails("256 is told first", IllegalArgumentException.class, () -> e.w.distance(0, 255, 256));
     }
 }
