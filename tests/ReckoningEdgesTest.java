@@ -79,6 +79,11 @@ public final class ReckoningEdgesTest {
         }
         l.tells("twelve items", 'n', 0, "6 0 1 0 0 0 0 0 0 0 0 0 0 9");
         l.fails("twelve are the most", IllegalStateException.class, () -> l.w.put(0, 0, 0, 0, 0, 0));
+        Desk three = new Desk(due, 'l', 3, 40).item(1, 9, 4, 0, 18).item(0, -4, -2, 0, -4);
+        three.tells("by the third one, though the second one would do", 'y', 12, "1 0 0 2");
+        three.bound(2).tells("as much as the witness has", 'y', 2, "1 0 0 2");
+        three.bound(1).tells("with the second one alone", 'y', 1, "1 0 1 0");
+        three.bound(0).tells("too little", 'n', 0, "4 0 1 4");
     }
 
     private void unknownConditions() {
@@ -388,6 +393,10 @@ public final class ReckoningEdgesTest {
         new Desk(due, 'r', 1, 2).item(0, 0, -1, 1).tells("nought twice and one", 'y', 2, "1 0 1 1");
         new Desk(due, 'r', 1, 3).item(0, -1, 0, 1).tells("three", 'y', 3, "4 6 4 7 1 1");
         new Desk(due, 'r', 1, 2).item(-2, 0, 1).tells("no fractions", 'y', 2, "1 0 1 1");
+        Desk half = new Desk(due, 'r', 1, 2).item(0, 1, -4, 4);
+        half.tells("nought, and a half twice", 'y', 2, "1 0 1 1");
+        due.is("a half is the upper end of its part", 1, half.w.rootsIn(0, 5, 16));
+        due.is("nothing above it", 0, half.w.rootsIn(0, 5, 17));
     }
 
     private void chains() {
