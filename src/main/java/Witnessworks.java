@@ -2100,7 +2100,7 @@ public final class Witnessworks {
                 int slackOfSum = entry.size + entry.itemCount;
                 minimise(slackOfSum);
                 long most = entry.boundNow * lower - valueOf(slackOfSum);
-                entry.tell(true, (int) Math.floorDiv(most, lower));
+                entry.tell(true, (int) Math.floorDiv(most, Math.max(1, lower)));
                 loadUnknowns(entry);
                 isFulfilled();
                 writeLeast(entry.size, entry.row);
@@ -2247,6 +2247,9 @@ public final class Witnessworks {
 
         private void exchange(int row, int column) {
             long by = table[row][column];
+            if (by < 1 || lower < 1) {
+                return;
+            }
             for (int r = 0; r <= rows; r++) {
                 long times = table[r][column];
                 if (r != row) {
@@ -2625,7 +2628,7 @@ public final class Witnessworks {
                 }
             }
             int one = gather();
-            if (one < 0) {
+            if (one < 0 || amounts[one] == 0) {
                 return missing == 0;
             }
             if (missing % amounts[one] != 0) {
@@ -2687,7 +2690,7 @@ public final class Witnessworks {
                 amounts[i] = basis[i][unknown];
             }
             int one = gather();
-            if (one < 0) {
+            if (one < 0 || amounts[one] == 0) {
                 return;
             }
             long step = Math.abs(amounts[one]);
