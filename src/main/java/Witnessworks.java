@@ -793,7 +793,7 @@ public final class Witnessworks {
 
     private void settleClaims(int entry) {
         int i = 0;
-        while (i < claimCount) {
+        for (int turn = 0; turn < MOST_CLAIMS && i < claimCount; turn++) {
             int condition = 0;
             if (claims[i].entry == entry) {
                 condition = house.judge(book[entry], claims[i].row, claims[i].isWitness);
@@ -2789,7 +2789,7 @@ public final class Witnessworks {
         }
 
         private static int leastDivisor(int number) {
-            for (int divisor = 2; divisor * divisor <= number; divisor++) {
+            for (int divisor = 2; divisor <= number / divisor; divisor++) {
                 if (number % divisor == 0) {
                     return divisor;
                 }
